@@ -48,7 +48,7 @@ public final class MuseumHouse {
     private static final int LAST_SOURCE = 9;
 
     private final Desks desks;
-    private final Register sites;
+    private final Sites sites;
     private final Contexts contexts;
     private final Finds finds;
     private final Items items;
@@ -62,7 +62,7 @@ public final class MuseumHouse {
 
     public MuseumHouse() {
         desks = new Desks();
-        sites = new Register(SITE, MOST_SITES);
+        sites = new Sites();
         contexts = new Contexts();
         finds = new Finds();
         items = new Items();
@@ -95,7 +95,7 @@ public final class MuseumHouse {
         int asker = numberOf(desks, desk);
         askRight(asker, RIGHT_DIGGING);
         askRoom(!sites.isFull());
-        return sites.handleOf(sites.enter());
+        return sites.stakeOut();
     }
 
     public int context(int desk, int site) throws NoSuchElementException, IllegalStateException {
@@ -415,7 +415,7 @@ public final class MuseumHouse {
     }
 
     /** What there is of one kind: numbers from 0 on, and their handles. */
-    private static class Register {
+    private abstract static class Register {
         private final int firstHandle;
         private final int room;
         private int made;
@@ -469,6 +469,16 @@ public final class MuseumHouse {
 
         boolean hasAll(int desk, int asked) {
             return (rights[desk] & asked) == asked;
+        }
+    }
+
+    private static final class Sites extends Register {
+        Sites() {
+            super(SITE, MOST_SITES);
+        }
+
+        int stakeOut() {
+            return handleOf(enter());
         }
     }
 

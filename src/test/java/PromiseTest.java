@@ -22,6 +22,7 @@ public final class PromiseTest {
         carry();
         within();
         move();
+        moveOnDayZero();
         moveRoom();
         place();
         stored();
@@ -38,6 +39,7 @@ public final class PromiseTest {
         hall();
         rule();
         count();
+        fullHouse();
         Checks.end();
     }
 
@@ -476,6 +478,15 @@ public final class PromiseTest {
         Checks.due(true, () -> h.move(100, 500, 603, 65));
     }
 
+    private static void moveOnDayZero() {
+        MuseumHouse h = furnished();
+        Checks.due(true, () -> h.move(100, 501, 602, 0));
+        Checks.due(false, () -> h.move(100, 501, 601, 0));
+        Checks.due(601, () -> h.place(501, 0));
+        Checks.due(601, () -> h.where(501, 0));
+        Checks.due(1, () -> h.stored(600, 0));
+    }
+
     private static void moveRoom() {
         MuseumHouse h = furnished();
         for (int day = 20; day < 32; day++) {
@@ -808,5 +819,61 @@ public final class PromiseTest {
         Checks.refused(4, h, () -> h.day(-1));
         Checks.equal(none, Checks.told(() -> h.count(10)));
         Checks.due(4, () -> h.rule());
+    }
+
+    /** With as many of each kind as there may be, the last ones answer like the first. */
+    private static void fullHouse() {
+        MuseumHouse h = new MuseumHouse();
+        h.site(100);
+        h.day(50);
+        for (int number = 0; number < 20; number++) {
+            h.context(100, 200);
+        }
+        for (int number = 0; number < 30; number++) {
+            h.find(100, 319, 0);
+            h.object(100, 400 + number);
+        }
+        for (int number = 0; number < 16; number++) {
+            h.store(100, 0);
+        }
+        for (int number = 0; number < 12; number++) {
+            h.move(100, 529, 604 + number, number);
+        }
+        for (int number = 0; number < 10; number++) {
+            h.show(100, 615, 20 + number, 20 + number);
+            h.hang(100, 800 + number, 529);
+        }
+        for (int number = 0; number < 39; number++) {
+            h.loan(100, 500, number, number);
+        }
+        h.loan(100, 529, 40, 45);
+        for (int number = 0; number < 20; number++) {
+            h.claim(100, 510 + number, 0);
+        }
+        Checks.due(false, () -> h.move(100, 529, 600, 11));
+        Checks.refused(3, h, () -> h.move(100, 529, 600, 12));
+        Checks.refused(12, h, () -> h.move(100, 500, 600, 38));
+        Checks.due(true, () -> h.move(100, 500, 615, 39));
+        Checks.due(1, () -> h.stored(615, 40));
+        Checks.due(1, () -> h.stored(600, 40));
+        Checks.due(604, () -> h.where(529, 0));
+        Checks.due(614, () -> h.where(529, 10));
+        Checks.due(600, () -> h.where(529, 11));
+        Checks.due(809, () -> h.where(529, 29));
+        Checks.due(739, () -> h.where(529, 45));
+        Checks.due(600, () -> h.where(529, 46));
+        Checks.due(1, () -> h.where(528, 29));
+        Checks.refused(13, h, () -> h.hang(100, 809, 528));
+        Checks.due(0, () -> h.close(100, 918));
+        Checks.due(true, () -> h.hang(100, 809, 528));
+        Checks.due(809, () -> h.where(528, 29));
+        Checks.due(true, () -> h.take(100, 809, 529));
+        Checks.due(true, () -> h.above(100, 319, 318));
+        Checks.due(7, () -> h.span(100, 318, 7, 9));
+        Checks.due(7, () -> h.year(319, 0));
+        Checks.due(319, () -> h.origin(429));
+        Checks.due(429, () -> h.origin(529));
+        Checks.due(615, () -> h.hall(809));
+        Checks.due(45, () -> h.back(100, 739, 40));
     }
 }
