@@ -6,7 +6,7 @@ import java.util.TreeSet;
 
 /**
  * Long runs of calls, the same ones each time, on a MuseumHouse and a PlainHouse side by side:
- * every answer, every exception by its very class, and rule() behind each of these must be the same.
+ * every answer, every exception by its very class, and rule() behind each exception must be alike.
  */
 public final class ModelTest {
     private static final int RUNS = 1500;
