@@ -6,6 +6,7 @@ import java.util.function.IntSupplier;
 final class Checks {
     private static int wrong = 0;
     private static int asked = 0;
+    private static String sentence = "";
 
     private Checks() {
     }
@@ -47,6 +48,14 @@ final class Checks {
         return (rule <= 3 ? IllegalStateException.class : IllegalArgumentException.class).getName();
     }
 
+    /** A test of one sentence of the document, which is named if the test fails. */
+    static void about(String section, String quote, Runnable test) {
+        Document.name(section, quote);
+        sentence = " [" + section + ": " + quote + "]";
+        test.run();
+        sentence = "";
+    }
+
     static void end() {
         System.out.println(asked + " answers, " + wrong + " wrong");
         if (wrong != 0) {
@@ -58,13 +67,14 @@ final class Checks {
         asked++;
         if (!want.equals(got)) {
             wrong++;
-            System.out.println(callerLine() + ": answered " + got + ", due is " + want);
+            System.out.println(callerLine() + ": answered " + got + ", due is " + want
+                + sentence);
         }
     }
 
     private static String callerLine() {
         for (StackTraceElement frame : new Throwable().getStackTrace()) {
-            if (!frame.getClassName().startsWith("Checks")) {
+            if (!frame.getClassName().matches("(Checks|Told|Document)(\\$.*)?")) {
                 return frame.toString();
             }
         }
