@@ -192,9 +192,8 @@ final class Seen {
 
     /** Which finds are objects, and the days of those that are none yet. */
     private void finds() {
-        List<ToIntFunction<MuseumHouse>> scene = scene();
         for (int find : handles(4)) {
-            scene.add(h -> firstDay(h, h.object(100, find)));
+            scene().add(h -> firstDay(h, h.object(100, find)));
         }
     }
 
