@@ -3,7 +3,10 @@ import java.nio.file.Files;
 import java.nio.file.Path;
 import java.util.BitSet;
 import java.util.LinkedHashMap;
+import java.util.List;
 import java.util.Map;
+import java.util.regex.MatchResult;
+import java.util.regex.Pattern;
 
 /**
  * The document, by which the sentences that tests name are held to be its own, and by which it is
@@ -12,6 +15,8 @@ import java.util.Map;
 final class Document {
     private static final Map<String, String> TEXTS = read();
     private static final Map<String, BitSet> NAMED = new LinkedHashMap<>();
+    private static final Pattern METHOD =
+        Pattern.compile("public (\\w+ \\w+)\\(([^)]*)\\)(?: throws ([^;]*))?;");
 
     private Document() {
     }
@@ -26,6 +31,11 @@ final class Document {
         if (at >= 0) {
             NAMED.computeIfAbsent(section, key -> new BitSet()).set(at, at + quote.length());
         }
+    }
+
+    /** The methods of the public face: answer and name; parameters; exceptions, or null. */
+    static List<MatchResult> face() {
+        return METHOD.matcher(TEXTS.getOrDefault("The public face", "")).results().toList();
     }
 
     /** Every word under 'Terms' and under a promise's heading is in a sentence that was named. */

@@ -5,6 +5,7 @@ import java.lang.reflect.Field;
 import java.util.Arrays;
 import java.util.Set;
 import java.util.TreeSet;
+import java.util.regex.MatchResult;
 import java.util.stream.Collectors;
 import java.util.stream.Stream;
 
@@ -36,10 +37,29 @@ public final class FaceTest {
         Checks.equal("public final", Modifier.toString(mods));
         Checks.equal("", house.getPackageName());
         Checks.equal(new TreeSet<>(Arrays.asList(FACE)).toString(), openMethods(house).toString());
+        inTheDocument();
         constructors(house);
         fields(house);
         noSharedNames(house);
         Checks.end();
+    }
+
+    /** The face above is as the document has it; where that can't be read, it stands alone. */
+    private static void inTheDocument() {
+        Set<String> told = new TreeSet<>();
+        for (MatchResult method : Document.face()) {
+            int parameters = method.group(2).split("int ", -1).length - 1;
+            told.add(method.group(1) + " " + parameters + thrown(method.group(3)));
+        }
+        if (!told.isEmpty()) {
+            Checks.equal(told.toString(), new TreeSet<>(Arrays.asList(FACE)).toString());
+        }
+    }
+
+    private static String thrown(String names) {
+        return names == null ? "" : " throws " + Stream.of(names.split(", "))
+            .map(name -> name.contains(".") ? name : "java.lang." + name)
+            .collect(Collectors.joining(","));
     }
 
     private static Set<String> openMethods(Class<?> house) {

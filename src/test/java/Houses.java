@@ -1,3 +1,5 @@
+import java.util.List;
+import java.util.Map;
 import java.util.function.ObjIntConsumer;
 
 /** Houses that several tests begin with, and the calls by which they are tried. */
@@ -91,6 +93,23 @@ final class Houses {
         new Bounds("claim's source", 0, 9, (h, x) -> h.claim(100, 502, x)),
         new Bounds("where's day", 0, 9999, (h, x) -> h.where(500, x)),
     };
+
+    /** The rules by which each call may be refused; those that are not here never are by one. */
+    static final Map<String, List<Integer>> REFUSED_BY = Map.ofEntries(
+        Map.entry("desk", List.of(1, 2, 3, 4, 5)), Map.entry("day", List.of(4)),
+        Map.entry("site", List.of(1, 2, 3)), Map.entry("context", List.of(1, 2, 3)),
+        Map.entry("above", List.of(1, 2, 6, 7, 8)), Map.entry("span", List.of(1, 2, 4, 8)),
+        Map.entry("isAbove", List.of(1)), Map.entry("year", List.of(1, 4)),
+        Map.entry("find", List.of(1, 2, 3, 4)), Map.entry("object", List.of(1, 2, 3, 9)),
+        Map.entry("store", List.of(1, 2, 3)), Map.entry("carry", List.of(1, 2, 10)),
+        Map.entry("within", List.of(1)), Map.entry("move", List.of(1, 2, 3, 4, 11, 12)),
+        Map.entry("place", List.of(1, 4)), Map.entry("stored", List.of(1, 4)),
+        Map.entry("loan", List.of(1, 2, 3, 4, 11, 13, 14)),
+        Map.entry("back", List.of(1, 2, 4, 15)), Map.entry("show", List.of(1, 2, 3, 4)),
+        Map.entry("hang", List.of(1, 2, 11, 13, 14)), Map.entry("take", List.of(1, 2)),
+        Map.entry("claim", List.of(1, 2, 3, 4, 16)), Map.entry("close", List.of(1, 2, 17)),
+        Map.entry("where", List.of(1, 4)), Map.entry("origin", List.of(1)),
+        Map.entry("hall", List.of(1)));
 
     private Houses() {
     }
